@@ -1,0 +1,108 @@
+import java.nio.charset.StandardCharsets;
+import java.util.NoSuchElementException;
+
+/** What all tests share: a new object to try, texts for it, and a count of the answers that are not as due. */
+final class Due {
+    private static int wrong = 0;
+    private static int asked = 0;
+
+    private Due() {
+    }
+
+    /** A call that may throw. */
+    interface Call {
+        long answer();
+    }
+
+    static void is(String what, long got, long want) {
+        asked++;
+        if (got != want) {
+            wrong++;
+            System.out.println(what + ": answered " + got + ", due is " + want);
+        }
+    }
+
+    static void holds(String what, boolean good) {
+        asked++;
+        if (!good) {
+            wrong++;
+            System.out.println(what + ": does not hold");
+        }
+    }
+
+    /** The call must throw exactly a NoSuchElementException. */
+    static void none(String what, Call call) {
+        asked++;
+        try {
+            long got = call.answer();
+            wrong++;
+            System.out.println(what + ": answered " + got + ", due is a NoSuchElementException");
+        } catch (RuntimeException e) {
+            if (e.getClass() != NoSuchElementException.class) {
+                wrong++;
+                System.out.println(what + ": threw " + e + ", due is a NoSuchElementException");
+            }
+        }
+    }
+
+    /** Ends the test: exit code 1 if an answer was not as due. */
+    static void end() {
+        System.out.println(asked + " answers, " + wrong + " not as due");
+        if (wrong != 0 || asked == 0) {
+            System.exit(1);
+        }
+    }
+
+    /** Puts the text on the tape, with blanks up to a multiple of twenty. */
+    static void feed(TokenCircuit x, String text) {
+        byte[] bytes = text.getBytes(StandardCharsets.ISO_8859_1);
+        for (int i = 0; i < bytes.length; i += 20) {
+            x.feed(word(bytes, i), word(bytes, i + 4), word(bytes, i + 8), word(bytes, i + 12), word(bytes, i + 16));
+        }
+    }
+
+    private static int word(byte[] bytes, int from) {
+        int word = 0;
+        for (int i = from; i < from + 4; i++) {
+            word = word << 8 | (i < bytes.length ? bytes[i] & 255 : ' ');
+        }
+        return word;
+    }
+
+    static int build(TokenCircuit x, String text) {
+        feed(x, text);
+        return x.build(text.length());
+    }
+
+    /** A new object with this PROGRAM, which must have no FAULT. */
+    static TokenCircuit made(String text) {
+        TokenCircuit x = new TokenCircuit();
+        is("build of " + text, build(x, text), 0);
+        return x;
+    }
+
+    /** The text must have this FAULT; kind 0: none. */
+    static void fault(String text, int kind, int place) {
+        TokenCircuit x = new TokenCircuit();
+        is("build of " + text, build(x, text), kind == 0 ? 0 : -1);
+        is("kind of the fault of " + text, x.fault(0), kind);
+        is("place of the fault of " + text, x.fault(1), place);
+    }
+
+    static void sound(String text) {
+        fault(text, 0, -1);
+    }
+
+    /** Gives the PARAMETERS, runs, and looks at the result. */
+    static void result(TokenCircuit x, String what, int want, int... given) {
+        for (int i = 0; i < given.length; i++) {
+            x.give(i, given[i]);
+        }
+        is(what + " run", x.run(3000), 0);
+        is(what + " result", x.told(1), want);
+    }
+
+    static String times(int n, String text) {
+        return text.repeat(n);
+    }
+}
