@@ -35,7 +35,8 @@ public final class RunTest {
         Due.is("three RUNS were done", x.cell(0, 0), 3);
     }
 
-    private static long plain(String sign, int a, int b) {
+    /** A sign of two, worked in 64 bits; the lower 32 are what the document means. */
+    static long plain(String sign, int a, int b) {
         switch (sign) {
             case "||": return a != 0 | b != 0 ? 1 : 0;
             case "&&": return a != 0 & b != 0 ? 1 : 0;
