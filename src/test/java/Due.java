@@ -53,6 +53,21 @@ final class Due {
         }
     }
 
+    /** Runs the test in a thread with much room: the Oracle goes as deep as a text does. */
+    static void deep(Runnable test) {
+        Thread thread = new Thread(null, test, "deep", 1L << 29);
+        thread.setUncaughtExceptionHandler((where, thrown) -> {
+            holds("nothing else is thrown: " + thrown, false);
+            thrown.printStackTrace(System.out);
+        });
+        thread.start();
+        try {
+            thread.join();
+        } catch (InterruptedException e) {
+            holds("the test comes to its end", false);
+        }
+    }
+
     /** Puts the text on the tape, with blanks up to a multiple of twenty. */
     static void feed(TokenCircuit x, String text) {
         byte[] bytes = text.getBytes(StandardCharsets.ISO_8859_1);

@@ -5,11 +5,8 @@ public final class FaultFuzzTest {
     private FaultFuzzTest() {
     }
 
-    public static void main(String[] args) throws InterruptedException {
-        // The Oracle goes as deep as a text does: more than a usual thread has room for.
-        Thread thread = new Thread(null, FaultFuzzTest::all, "deep", 1L << 29);
-        thread.start();
-        thread.join();
+    public static void main(String[] args) {
+        Due.deep(FaultFuzzTest::all);
         Due.end();
     }
 
