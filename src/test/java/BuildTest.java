@@ -9,6 +9,7 @@ public final class BuildTest {
         faultKeepsAllElse();
         successBeginsAnew();
         manyPrograms();
+        nothingStaysOfEarlierTexts();
         Due.end();
     }
 
@@ -117,6 +118,33 @@ public final class BuildTest {
             Due.is("build " + i, Due.build(x, "int f(){return " + i + ";}"), 0);
             Due.is("a fault between " + i, Due.build(x, "int f(){return " + i + "}"), -1);
             Due.result(x, "program " + i, i);
+        }
+    }
+
+    /** What an earlier text counted or told, with a FAULT or without, is none of the next one's. */
+    private static void nothingStaysOfEarlierTexts() {
+        TokenCircuit x = new TokenCircuit();
+        String worked = "int f(int a){return 1" + "+1".repeat(199) + ";}";
+        String branching = "int f(int a){" + "if(a)a=a-1;else a=a+2;".repeat(40) + "return a;}";
+        String told = "int f(int p,int q,int r,int s){" + "{int a=1;}".repeat(12) + "}";
+        String arrays = "int a[1];int b[1];int c[1];int d[1];int e[1];int g[1];int h[1];int i[1];int f(){}";
+        String open = "int f(){" + "{".repeat(15) + "while(1)if(";
+        for (int i = 0; i < 3; i++) {
+            Due.is("a text that ends too soon", Due.build(x, open), -1);
+            Due.is("its kind", x.fault(0), 7);
+            Due.is("399 that are worked", Due.build(x, worked), 0);
+            Due.result(x, "399 that are worked", 200, 0);
+            Due.is("an ARRAY a", Due.build(x, arrays), 0);
+            Due.is("40 ifs", Due.build(x, branching), 0);
+            Due.result(x, "40 ifs", 0, 40);
+            Due.is("STEPS of 40 ifs", x.told(2), 81);
+            Due.is("16 variables", Due.build(x, told), 0);
+            Due.is("a break out of sight", Due.build(x, "int f(){while(1){break;"), -1);
+            Due.is("a break in no while", Due.build(x, "int f(){break;}"), -1);
+            Due.is("its kind", x.fault(0), 5);
+            Due.is("a FAULT of meaning", Due.build(x, "int f(){int a=a;}"), -1);
+            Due.is("none of it stays", Due.build(x, "int a(int f){int b=f;return b;}"), 0);
+            Due.result(x, "none of it stays", i, i);
         }
     }
 }

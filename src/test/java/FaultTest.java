@@ -336,7 +336,7 @@ public final class FaultTest {
         Due.fault("int f(int x,int y){" + many(15, "int ", "=1;") + "}", 6, 19 + 14 * 9 + 4);
         Due.sound("int f(){" + Due.times(16, "{int a=1;}") + "}");
         Due.fault("int f(){" + Due.times(17, "{int a=1;}") + "}", 6, 8 + 16 * 10 + 5);
-        Due.sound(many(8, "int ", "[1];") + "int f(int x,int y,int z,int w){" + many(22, "int ", "=1;").substring(90) + "}");
+        Due.sound(many(8, "int ", "[1];") + "int f(int x,int y,int z,int w){" + many(22, "int ", "=1;").substring(90) + "return c1+w+a7[0];}");
         Due.fault("int f(){return 1;" + many(17, "int ", "=1;") + "}", 6, 17 + 16 * 9 + 4);
     }
 
