@@ -300,7 +300,7 @@ public final class TokenCircuit {
             case 6:
                 return memory.rows;
             case 7:
-                return work.left;
+                return work.unused;
             case 8:
                 return work.late;
             case 9:
@@ -414,10 +414,10 @@ public final class TokenCircuit {
                 return BAD;
             }
             int second = byteAt(next + 1);
-            boolean equals = second == '=' && BEFORE_EQUAL.indexOf((char) first) >= 0;
+            boolean withEqual = second == '=' && BEFORE_EQUAL.indexOf((char) first) >= 0;
             boolean doubled = second == first && DOUBLED.indexOf((char) first) >= 0;
             next++;
-            if (!equals && !doubled) {
+            if (!withEqual && !doubled) {
                 return first;
             }
             next++;
@@ -689,7 +689,7 @@ public final class TokenCircuit {
             return pop();
         }
 
-        /** What an E or the right side of a sign can begin with, as far as one token, or a NAME, goes. */
+        /** One of the tokens with which an operand begins; a NAME together with a [ behind it. */
         private boolean readOperand() {
             int kind = reading.kind;
             int place = reading.place;
@@ -1231,7 +1231,7 @@ public final class TokenCircuit {
         private int answer;
         private int result;
         private int steps;
-        private int left;
+        private int unused;
         private int late;
         private int roomless;
 
@@ -1255,6 +1255,7 @@ public final class TokenCircuit {
             forget();
             begin(whole, given, most);
             int spent = 1;
+            // Cycles in which all wait for the memory or for whoever takes the result are leapt over.
             for (int cycle = 0; turn != NONE && cycle < MOST_CYCLES; cycle += Math.max(spent, 1)) {
                 spent = isReady() ? work(cycle) : 1;
             }
@@ -1262,7 +1263,7 @@ public final class TokenCircuit {
                 late++;
             }
             if (answer == ENDED) {
-                left += held;
+                unused += held;
             }
             return answer;
         }
