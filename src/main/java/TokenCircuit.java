@@ -848,6 +848,9 @@ public final class TokenCircuit {
         /** Where continue and break lead; NONE in no while. */
         private int again;
         private int behind;
+        /** The NAME that is being told. */
+        private long newName;
+        private int newPlace;
 
         Maker(Tokens tokens, Circuit circuit) {
             reading = new Reading(tokens);
@@ -884,21 +887,15 @@ public final class TokenCircuit {
         /** Reads the ARRAYS and the NAME of the function. */
         private boolean readArrays() {
             for (int i = 0; i < MOST_TOKENS; i++) {
-                if (!reading.pass(INT)) {
+                if (!(reading.pass(INT) && readNewName())) {
                     return false;
                 }
-                long name = reading.value;
-                int place = reading.place;
-                if (!reading.pass(NAME)) {
-                    return false;
-                }
-                reading.blame(sight.faultOfTelling(name), place);
                 if (reading.kind != '[') {
-                    sight.tell(name, FUNCTION, 0);
+                    sight.tell(newName, FUNCTION, 0);
                     return true;
                 }
-                reading.blame(circuit.arrays >= MOST_ARRAYS ? ROOM : 0, place);
-                sight.tell(name, ARRAY, circuit.arrays);
+                reading.blame(circuit.arrays >= MOST_ARRAYS ? ROOM : 0, newPlace);
+                sight.tell(newName, ARRAY, circuit.arrays);
                 if (!readCells()) {
                     return false;
                 }
@@ -927,17 +924,11 @@ public final class TokenCircuit {
             }
             boolean more = reading.kind != ')';
             for (int i = 0; i < MOST_TOKENS && more; i++) {
-                if (!reading.pass(INT)) {
+                if (!(reading.pass(INT) && readNewName())) {
                     return false;
                 }
-                long name = reading.value;
-                int place = reading.place;
-                if (!reading.pass(NAME)) {
-                    return false;
-                }
-                reading.blame(sight.faultOfTelling(name), place);
-                reading.blame(circuit.parameters >= MOST_PARAMETERS ? ROOM : 0, place);
-                sight.tell(name, VARIABLE, circuit.variables);
+                reading.blame(circuit.parameters >= MOST_PARAMETERS ? ROOM : 0, newPlace);
+                sight.tell(newName, VARIABLE, circuit.variables);
                 circuit.parameters++;
                 circuit.variables++;
                 more = reading.kind == ',';
@@ -947,6 +938,17 @@ public final class TokenCircuit {
             }
             reading.leave();
             return reading.pass(')');
+        }
+
+        /** A NAME that is told here and must not be in sight. */
+        private boolean readNewName() {
+            newName = reading.value;
+            newPlace = reading.place;
+            if (!reading.pass(NAME)) {
+                return false;
+            }
+            reading.blame(sight.faultOfTelling(newName), newPlace);
+            return true;
         }
 
         private boolean readBlock() {
@@ -990,20 +992,17 @@ public final class TokenCircuit {
         /** int NAME = E ; */
         private boolean readTelling() {
             reading.advance();
-            long name = reading.value;
-            int place = reading.place;
-            if (!reading.pass(NAME)) {
+            if (!readNewName()) {
                 return false;
             }
-            reading.blame(sight.faultOfTelling(name), place);
-            reading.blame(circuit.variables >= MOST_VARIABLES ? ROOM : 0, place);
+            reading.blame(circuit.variables >= MOST_VARIABLES ? ROOM : 0, newPlace);
             int number = circuit.variables;
             circuit.variables++;
             if (!(reading.pass('=') && formula.read() && reading.pass(';'))) {
                 return false;
             }
             circuit.lay(SET, formula.result(), NONE, number);
-            sight.tell(name, VARIABLE, number);
+            sight.tell(newName, VARIABLE, number);
             return true;
         }
 
