@@ -6,7 +6,7 @@ import java.util.NoSuchElementException;
  * another, each when it has what it wants and room for what it makes; memory answers after told
  * times, whoever takes the result holds it up as told; and what comes out is what the text means.
  *
- * <p>All rows are made once, with the object: no call makes anything new.
+ * <p>All rows are made once, with the object: no call makes anything new but an exception that is due.
  */
 public final class TokenCircuit {
     /** There is none. */
