@@ -1,10 +1,15 @@
 import java.nio.charset.StandardCharsets;
-import java.util.NoSuchElementException;
 
 /** What all tests share: a new object to try, texts for it, and a count of the answers that are not as due. */
 final class Due {
+    /** The answer of a call that throws a NoSuchElementException, and no class below it. */
+    static final String THROWS = "throws.NoSuchElementException";
+
     private static int wrong = 0;
     private static int asked = 0;
+    private static int sentences = 0;
+    private static int askedAhead = 0;
+    private static String sentence = "";
 
     private Due() {
     }
@@ -14,40 +19,68 @@ final class Due {
         long answer();
     }
 
+    /** What follows tests these words of the document; something must be asked for each. */
+    static void sentence(String words) {
+        endSentence();
+        sentence = words;
+        sentences++;
+        askedAhead = asked;
+    }
+
+    private static void endSentence() {
+        if (sentences > 0 && asked == askedAhead) {
+            fail("nothing was asked");
+        }
+    }
+
+    private static void fail(String line) {
+        wrong++;
+        if (!sentence.isEmpty()) {
+            System.out.println("\"" + sentence + "\"");
+        }
+        System.out.println(line);
+    }
+
     static void is(String what, long got, long want) {
         asked++;
         if (got != want) {
-            wrong++;
-            System.out.println(what + ": answered " + got + ", due is " + want);
+            fail(what + ": answered " + got + ", due is " + want);
+        }
+    }
+
+    static void is(String what, String got, String want) {
+        asked++;
+        if (!got.equals(want)) {
+            fail(what + ": answered " + got + ", due is " + want);
         }
     }
 
     static void holds(String what, boolean good) {
         asked++;
         if (!good) {
-            wrong++;
-            System.out.println(what + ": does not hold");
+            fail(what + ": does not hold");
         }
     }
 
     /** The call must throw exactly a NoSuchElementException. */
     static void none(String what, Call call) {
-        asked++;
+        is(what, answer(call), THROWS);
+    }
+
+    /** What the call answers, in words, so that what it throws is an answer too. */
+    static String answer(Call call) {
         try {
-            long got = call.answer();
-            wrong++;
-            System.out.println(what + ": answered " + got + ", due is a NoSuchElementException");
+            return Long.toString(call.answer());
         } catch (RuntimeException e) {
-            if (e.getClass() != NoSuchElementException.class) {
-                wrong++;
-                System.out.println(what + ": threw " + e + ", due is a NoSuchElementException");
-            }
+            return "throws." + e.getClass().getSimpleName();
         }
     }
 
     /** Ends the test: exit code 1 if an answer was not as due. */
     static void end() {
-        System.out.println(asked + " answers, " + wrong + " not as due");
+        endSentence();
+        String of = sentences > 0 ? " to " + sentences + " sentences" : "";
+        System.out.println(asked + " answers" + of + ", " + wrong + " not as due");
         if (wrong != 0 || asked == 0) {
             System.exit(1);
         }
