@@ -1230,6 +1230,7 @@ public final class TokenCircuit {
         private int answer;
         private int result;
         private int steps;
+        private int cycles;
         private int unused;
         private int late;
         private int roomless;
@@ -1253,12 +1254,13 @@ public final class TokenCircuit {
         int perform(Circuit whole, int[] given, int most) {
             forget();
             begin(whole, given, most);
-            int spent = 1;
+            int cycle = 0;
             // Cycles in which all wait for the memory or for whoever takes the result are leapt over.
-            for (int cycle = 0; turn != NONE && cycle < MOST_CYCLES; cycle += Math.max(spent, 1)) {
-                spent = isReady() ? work(cycle) : 1;
+            while (turn != NONE && cycle < MOST_CYCLES) {
+                cycle += Math.max(isReady() ? work(cycle) : 1, 1);
             }
-            if (turn != NONE) {
+            cycles = cycle;
+            if (cycles >= MOST_CYCLES) {
                 late++;
             }
             if (answer == ENDED) {

@@ -6,6 +6,9 @@ public final class CallsFuzzTest {
     private static final int[] EDGES = {0, 1, -1, 2, 3, 4, 5, 6, 7, 8, 10, 11, 16, 20, 31, 32, 33, 40, 63, 64, 65, 199, 200,
         255, 256, 257, 2000, 2001, 2999, 3000, 3001, Integer.MAX_VALUE, Integer.MIN_VALUE};
 
+    /** A text of 800 bytes comes in 40 feeds, with a build ahead of it and one behind. */
+    private static final int MOST_AT_ONCE = 43;
+
     private final Scribbler scribbler;
     private final TokenCircuit x = new TokenCircuit();
     private final StringBuilder tape = new StringBuilder();
@@ -14,6 +17,7 @@ public final class CallsFuzzTest {
     private int faultKind = 0;
     private int faultPlace = -1;
     private long stall = 0;
+    private int calls = 0;
     private String what;
 
     private CallsFuzzTest(long seed) {
@@ -26,10 +30,11 @@ public final class CallsFuzzTest {
     }
 
     private static void all() {
-        for (int seed = 0; seed < 1500; seed++) {
+        for (int seed = 0; seed < 2500; seed++) {
             CallsFuzzTest test = new CallsFuzzTest(seed);
-            for (int i = 0; i < 512; i++) {
+            for (int i = 0; i < 512 && test.calls < 512 - MOST_AT_ONCE; i++) {
                 test.what = "run " + seed + " call " + i;
+                test.calls++;
                 test.call();
             }
         }
@@ -125,6 +130,7 @@ public final class CallsFuzzTest {
                 built(tape.length());
             }
             Due.feed(x, text);
+            calls += 2 + (text.length() + 19) / 20;
             tape.append(text).append(" ".repeat((20 - text.length() % 20) % 20));
             n = text.length();
         }

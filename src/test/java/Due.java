@@ -131,6 +131,15 @@ final class Due {
 
     /** The text must have this FAULT; kind 0: none. */
     static void fault(String text, int kind, int place) {
+        faultAlone(text, kind, place);
+        // Behind a FAULT of kind 1 or 7 nothing is read any more; ahead of all others one of kind 1 goes.
+        boolean isMet = kind == 7 || kind == 1 && place < text.length();
+        if (text.length() + 2 <= 2000) {
+            faultAlone(text + " #", isMet ? kind : 1, isMet ? place : text.length() + 1);
+        }
+    }
+
+    private static void faultAlone(String text, int kind, int place) {
         TokenCircuit x = new TokenCircuit();
         is("build of " + text, build(x, text), kind == 0 ? 0 : -1);
         is("kind of the fault of " + text, x.fault(0), kind);

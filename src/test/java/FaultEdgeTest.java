@@ -325,8 +325,14 @@ public final class FaultEdgeTest {
         Due.sound("int f(){" + "{int a=1;}".repeat(16) + "}");
         Due.fault("int f(){" + "{int a=1;}".repeat(17) + "}", 6, 8 + 160 + 5);
         Due.fault("int f(int b){" + "if(b)int a=1;".repeat(16) + "}", 6, 13 + 15 * 13 + 9);
-        // ARRAYS and the function do not.
-        Due.sound(list(17, 25, "int ", "[1];") + "int f(){" + list(0, 16, "int ", "=1;") + "}");
+        // ARRAYS and the function do not; and all that can be told can be used.
+        String all = list(17, 25, "int ", "[1];") + "int f(){" + list(0, 16, "int ", "=1;");
+        Due.sound(all + "}");
+        Due.sound(all + list(0, 16, "", "=2;") + list(17, 25, "", "[0]=3;") + "}");
+        Due.fault(all + "{int vp=1;}}", 2, all.length() + 5);
+        Due.fault(all + "return vz;}", 3, all.length() + 7);
+        Due.fault(all + "vp[0]=1;}", 4, all.length());
+        Due.fault(all + "return vy;}", 4, all.length() + 7);
     }
 
     private static void branching41() {
@@ -390,6 +396,12 @@ public final class FaultEdgeTest {
         Due.fault(sum + "+1;}", 6, sum.length() + 1);
         Due.sound(sum + ";a=1;}");
         Due.fault(sum + ";a=1;a=1;}", 6, sum.length() + 7);
+        // As many signs as can wait for what stands to their right: all ten levels, in each of 15 ( or [.
+        String rising = "1||1&&1|1^1&1==1<1<<1+1*";
+        Due.sound(head + "a=" + (rising + "(").repeat(15) + rising + "1" + ")".repeat(15) + ";}");
+        Due.sound(head + "a=" + (rising + "m[").repeat(15) + rising + "1" + "]".repeat(15) + ";}");
+        Due.sound(head + "a=" + (rising + "-").repeat(15) + rising + "1;}");
+        Due.fault(head + "a=" + (rising + "(").repeat(16), 7, head.length() + 2 + 16 * rising.length() + 15);
         // What is told or set is in no E.
         Due.sound(head + "a=1;".repeat(385) + list(0, 15, "int ", "=1;") + "}");
         // Nor is the NUMBER of cells.

@@ -49,6 +49,14 @@ public final class LatencyTest {
         TokenCircuit plain = Due.made(text);
         plain.give(0, 20);
         plain.run(3000);
+        int[] told = new int[6];
+        for (int what = 0; what <= 5; what++) {
+            told[what] = plain.told(what);
+        }
+        int[] cells = new int[7];
+        for (int i = 0; i < 7; i++) {
+            cells[i] = plain.cell(0, i);
+        }
         long[] patterns = {0, 1, -2, Long.MAX_VALUE, Long.MIN_VALUE, 0x5555555555555555L, -1, 0xFFFFFFFFL};
         for (int most = 0; most <= 32; most += 4) {
             for (long pattern : patterns) {
@@ -60,10 +68,10 @@ public final class LatencyTest {
                 x.give(0, 20);
                 Due.is("run", x.run(3000), 0);
                 for (int what = 0; what <= 5; what++) {
-                    Due.is("told(" + what + ")", x.told(what), plain.told(what));
+                    Due.is("told(" + what + ")", x.told(what), told[what]);
                 }
                 for (int i = 0; i < 7; i++) {
-                    Due.is("cell " + i, x.cell(0, i), plain.cell(0, i));
+                    Due.is("cell " + i, x.cell(0, i), cells[i]);
                 }
                 for (int what = 7; what <= 10; what++) {
                     Due.is("count(" + what + ")", x.count(what), 0);

@@ -18,6 +18,7 @@ public final class MeaningEdgeTest {
         cellsFrom0On();
         floorRest();
         placeFirst();
+        fullest();
         begins();
         endOfBlock();
         stepsOfFunction();
@@ -243,6 +244,21 @@ public final class MeaningEdgeTest {
         TokenCircuit x = Due.made("int m[4];int f(){m[m[1]+1]=m[m[1]+1]+3;return m[1];}");
         Due.result(x, "the cell as it was", 3);
         Due.is("reads", x.told(3), 4);
+    }
+
+    private static void fullest() {
+        Due.sentence("All of an E is worked from the left, each part wholly");
+        // All ten levels wait in each of 15 ( at once.
+        String rising = "0||0&&5|0^6&7==8<9<<1+2*";
+        TokenCircuit x = Due.made("int f(int a){return " + (rising + "(").repeat(15) + rising + "a" + ")".repeat(15) + ";}");
+        Due.result(x, "0 at last", 0, 1);
+        String adding = "1+2*";
+        TokenCircuit y = Due.made("int f(int a){return " + (adding + "(").repeat(15) + "a" + ")".repeat(15) + ";}");
+        Due.result(y, "15 times twice and one more", 32767 + 32768 * 3, 3);
+        TokenCircuit z = Due.made("int m[4];int f(int a){m[1]=2;m[2]=3;m[3]=1;return 10*" + "m[".repeat(14) + "a" + "]".repeat(14) + "+a;}");
+        Due.result(z, "a cell of a cell of a cell", 12, 2);
+        TokenCircuit long400 = Due.made("int f(int a){return a" + "-1".repeat(199) + ";}");
+        Due.result(long400, "199 times one less", 801, 1000);
     }
 
     private static void begins() {

@@ -6,7 +6,7 @@ public final class MeaningFuzzTest {
     public static void main(String[] args) {
         int sound = 0;
         int ended = 0;
-        for (int seed = 0; seed < 4000; seed++) {
+        for (int seed = 0; seed < 6000; seed++) {
             Scribbler scribbler = new Scribbler(seed);
             String text = scribbler.program(1 + scribbler.below(14));
             Oracle oracle = new Oracle(text);
@@ -62,28 +62,33 @@ public final class MeaningFuzzTest {
         int limit = scribbler.below(3) == 0 ? 1 + scribbler.below(20) : 1 + scribbler.below(3000);
         oracle.run(limit);
         Due.is("run " + limit + " of " + what, x.run(limit), oracle.answer);
-        compare(x, oracle, what);
+        compare(x, oracle, scribbler, what);
         return oracle.answer == 0 ? 1 : 0;
     }
 
-    private static void compare(TokenCircuit x, Oracle oracle, String what) {
+    /** Looks at some writes and some cells: no object may be called more than 512 times. */
+    private static void compare(TokenCircuit x, Oracle oracle, Scribbler scribbler, String what) {
         Due.is("answer of " + what, x.told(0), oracle.answer);
         Due.is("result of " + what, x.told(1), oracle.result);
         Due.is("steps of " + what, x.told(2), oracle.steps);
         Due.is("reads of " + what, x.told(3), oracle.reads);
         Due.is("writes of " + what, x.told(4), oracle.writes.size());
         Due.is("delivered of " + what, x.told(5), oracle.answer == 0 ? 1 : 0);
-        for (int i = 0; i < oracle.writes.size() && i < 200; i++) {
+        int kept = Math.min(200, oracle.writes.size());
+        for (int k = 0; k < 4 && kept > 0; k++) {
+            int i = k == 0 ? kept - 1 : scribbler.below(kept);
             for (int part = 0; part < 3; part++) {
                 Due.is("write " + i + " of " + what, x.write(i, part), oracle.writes.get(i)[part]);
             }
         }
-        int none = Math.min(200, oracle.writes.size());
-        Due.none("write " + none + " of " + what, () -> x.write(none, 0));
-        for (int a = 0; a < oracle.cells.length; a++) {
-            for (int i = 0; i < oracle.cells[a].length; i++) {
-                Due.is("cell " + a + " " + i + " of " + what, x.cell(a, i), oracle.cells[a][i]);
-            }
+        Due.none("write " + kept + " of " + what, () -> x.write(kept, 0));
+        for (int k = 0; k < 16; k++) {
+            // Where the RUN wrote, or anywhere.
+            boolean written = k % 2 == 0 && oracle.writes.size() > 0;
+            int[] write = written ? oracle.writes.get(scribbler.below(oracle.writes.size())) : null;
+            int a = written ? write[0] : scribbler.below(oracle.cells.length);
+            int i = written ? write[1] : scribbler.below(oracle.cells[a].length);
+            Due.is("cell " + a + " " + i + " of " + what, x.cell(a, i), oracle.cells[a][i]);
         }
         for (int i = 7; i <= 10; i++) {
             Due.is("count " + i + " of " + what, x.count(i), 0);

@@ -16,6 +16,8 @@ public final class PromiseEdgeTest {
         buildFirstBytes();
         buildEmptiesTheTape();
         buildBeginsAnew();
+        buildBehindBuild();
+        buildBehindFault();
         buildNotSoMany();
         faultOfLatest();
         give();
@@ -218,6 +220,55 @@ public final class PromiseEdgeTest {
                 Due.is("told(" + what + ")", x.told(what), 0);
             }
             Due.none("no write", () -> x.write(0, 0));
+        }
+    }
+
+    /** Texts that fill all there is, one behind the other: nothing of one stays for the next. */
+    private static void buildBehindBuild() {
+        Due.sentence("Promise 3: 0, and it is the PROGRAM");
+        String arrays = "int a[1];int b[1];int c[1];int d[1];int e[1];int g[1];int h[1];int i[9];int f(){i[8]=4;return i[8];}";
+        String variables = "int f(int i,int b,int c,int d){" + "{int a=1;}".repeat(12) + "return i+b+c+d;}";
+        String branchings = "int i(int a){" + "if(a)a=a-1;else a=a+2;".repeat(40) + "return a;}";
+        String whiles = "int i(int a){" + "while(a>9)a=a-1;".repeat(40) + "return a;}";
+        String worked = "int a(int f){return f" + "+1".repeat(199) + ";}";
+        String open = "int i(int f){" + "{".repeat(14) + "f=(f);" + "}".repeat(14) + "return f;}";
+        String[] texts = {arrays, variables, branchings, whiles, worked, open};
+        int[] results = {4, 0, 2, 0, 199, 0};
+        for (int first = 0; first < texts.length; first++) {
+            for (int second = 0; second < texts.length; second++) {
+                TokenCircuit x = new TokenCircuit();
+                // Four times: however many rooms there are for PROGRAMS, each is used again.
+                for (int again = 0; again < 4; again++) {
+                    Due.is("the first", Due.build(x, texts[first]), 0);
+                    Due.is("its run", x.run(3000), 0);
+                    Due.is("its result", x.told(1), results[first]);
+                    Due.is("the second", Due.build(x, texts[second]), 0);
+                    Due.is("its run", x.run(3000), 0);
+                    Due.is("its result", x.told(1), results[second]);
+                }
+            }
+        }
+    }
+
+    /** A text that is cut anywhere, and then a whole one: nothing of the first stays. */
+    private static void buildBehindFault() {
+        Due.sentence("Promise 3: NONE with a FAULT (the PROGRAM of before stays");
+        String cut = "int a[9];int g(int b){int c=1*(2+a[3<<(4-!b)]);while(b){if(c){int d=1;break;}else a[b*(c+1)]=-(d);}return ~(c|a[2]);}";
+        String good = "int f(int a,int g){int c=a*(g+1);int d=0;while(d<3){d=d+1;if(d==2)continue;c=c-d;}return c;}";
+        String program = "int m[2];int f(int x){m[1]=x;return m[1]+m[0]*10;}";
+        for (int n = 0; n < cut.length(); n++) {
+            TokenCircuit x = Due.made(program);
+            x.give(0, 5);
+            x.poke(0, 0, 2);
+            for (int again = 0; again < 2; again++) {
+                Due.is("build of a text that is cut", Due.build(x, cut.substring(0, n)), -1);
+                Due.is("the PROGRAM of before", x.run(1), 0);
+                Due.is("its result", x.told(1), 25);
+            }
+            Due.is("another cut", Due.build(x, cut), -1);
+            Due.is("its kind", x.fault(0), 3);
+            Due.is("build of a whole one", Due.build(x, good), 0);
+            Due.result(x, "its result", 5 * 7 - 4, 5, 6);
         }
     }
 

@@ -45,8 +45,8 @@ public final class RefusedCallTest {
         each(states, "write: NONE for another what. NoSuchElementException: there is none such.", RefusedCallTest::write);
         each(states, "count: NONE for another what.", RefusedCallTest::count);
         each(states, "size: NONE if there is none such.", RefusedCallTest::size);
-        each(states, "Calls that only tell.", RefusedCallTest::tellingCalls);
-        Due.sentence("A call that is taken changes what the document says, and nothing else.");
+        each(states, "A call that throws changes nothing but the tape, as told.", RefusedCallTest::throwingCalls);
+        each(states, "Nothing is promised beyond the answers and state changes described above", RefusedCallTest::tellingCalls);
         takenCalls();
         Due.end();
     }
@@ -262,6 +262,23 @@ public final class RefusedCallTest {
         }
     }
 
+    /** All of them, one behind the other, on one object. */
+    private void throwingCalls() {
+        story.changesNothing("all that throw", x -> {
+            int thrown = 0;
+            for (int i : new int[] {-1, 256, LEAST, MOST}) {
+                thrown += Due.answer(() -> x.give(i, 9)).equals(Due.THROWS) ? 1 : 0;
+                thrown += Due.answer(() -> x.poke(i, 0, 9)).equals(Due.THROWS) ? 1 : 0;
+                thrown += Due.answer(() -> x.poke(0, i, 9)).equals(Due.THROWS) ? 1 : 0;
+                thrown += Due.answer(() -> x.cell(i, 0)).equals(Due.THROWS) ? 1 : 0;
+                thrown += Due.answer(() -> x.cell(0, i)).equals(Due.THROWS) ? 1 : 0;
+                thrown += Due.answer(() -> x.write(i, 0)).equals(Due.THROWS) ? 1 : 0;
+            }
+            return thrown;
+        }, "24");
+    }
+
+    /** What only tells changes nothing. */
     private void tellingCalls() {
         List<ToLongFunction<TokenCircuit>> calls = new ArrayList<>();
         for (int i = 0; i <= 10; i++) {
@@ -279,6 +296,7 @@ public final class RefusedCallTest {
         }
     }
 
+    /** What is taken changes what the document says, and nothing else. */
     private static void takenCalls() {
         Story story = worked("taken", 3000).then(x -> Due.feed(x, FED));
         story.changes("feed", x -> x.feed(0, 0, 0, 0, 0), "40", EnumSet.of(Story.Look.TAPE));

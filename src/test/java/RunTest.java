@@ -62,8 +62,8 @@ public final class RunTest {
     private static void signsOfTwo() {
         String[] signs = {"||", "&&", "|", "^", "&", "==", "!=", "<", "<=", ">", ">=", "<<", ">>", "+", "-", "*", "/", "%"};
         for (String sign : signs) {
-            TokenCircuit x = Due.made("int f(int a,int b){return a" + sign + "b;}");
             for (int a : VALUES) {
+                TokenCircuit x = Due.made("int f(int a,int b){return a" + sign + "b;}");
                 for (int b : VALUES) {
                     Due.result(x, a + sign + b, (int) plain(sign, a, b), a, b);
                 }

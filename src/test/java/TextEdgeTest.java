@@ -18,9 +18,11 @@ public final class TextEdgeTest {
         arrays();
         parameters();
         blocks();
+        statements();
         elses();
         levels();
         unaries();
+        leftUnfinished();
         endsTooSoon();
         noToken();
         Due.end();
@@ -225,7 +227,8 @@ public final class TextEdgeTest {
     }
 
     private static void arrays() {
-        Due.sentence("PROGRAM: { int NAME [ NUMBER ] ; } int NAME ( .. ) BLOCK");
+        Due.sentence("PROGRAM: { int NAME [ NUMBER ] ; } int NAME ( .. ) BLOCK "
+            + "(the ARRAYS with how many cells they have, then the function, its PARAMETERS).");
         Due.sound("int f(){}");
         Due.sound("int a[1];int f(){}");
         Due.sound("int a[1];int b[2];int f(){}");
@@ -244,6 +247,17 @@ public final class TextEdgeTest {
         Due.fault("int a[1][1];int f(){}", 1, 8);
         Due.fault("int a;int f(){}", 1, 5);
         Due.fault("int a[1];", 1, 9);
+        Due.fault("(){}", 1, 0);
+        Due.fault("{}", 1, 0);
+        Due.fault("int (){}", 1, 4);
+        Due.fault("int {}", 1, 4);
+        Due.fault("int [1];int f(){}", 1, 4);
+        Due.fault("int a[1];(){}", 1, 9);
+        Due.fault("int a[int f(){}", 1, 6);
+        Due.fault("int a[(){}", 1, 6);
+        Due.fault("int a[1(){}", 1, 7);
+        Due.fault("int a[1](){}", 1, 8);
+        Due.fault("int a[1;int f(){}", 1, 7);
     }
 
     private static void parameters() {
@@ -260,6 +274,10 @@ public final class TextEdgeTest {
         Due.fault("int f(int a[1]){}", 1, 11);
         Due.fault("int f(int a,,int b){}", 1, 12);
         Due.fault("int f{}", 1, 5);
+        Due.fault("int f({}", 1, 6);
+        Due.fault("int f(int{}", 1, 9);
+        Due.fault("int f(int a{}", 1, 11);
+        Due.fault("int f(int a,{}", 1, 12);
         Due.fault("int f()", 1, 7);
         Due.fault("int f();", 1, 7);
         Due.fault("int f()return 1;", 1, 7);
@@ -276,6 +294,23 @@ public final class TextEdgeTest {
         Due.fault("int f(){-1;}", 1, 8);
         Due.fault("int f(){]}", 1, 8);
         Due.fault("int f(){)}", 1, 8);
+        Due.fault("int f(){else{}}", 1, 8);
+        Due.fault("int f(){{}", 1, 10);
+        Due.fault("int f(){}}", 1, 9);
+    }
+
+    private static void statements() {
+        Due.sentence("STATEMENT: int NAME = E ; NAME = E ; NAME [ E ] = E ; if ( E ) STATEMENT [else STATEMENT] "
+            + ".. while ( E ) STATEMENT break ; continue ; return E ; BLOCK.");
+        String[] goes = {"int b=1;", "a=1;", "m[a]=1;", "if(a)a=1;", "if(a)a=1;else a=2;", "if(a){}", "while(a)a=0;", "while(a){}",
+            "while(a)break;", "while(a)continue;", "return a;", "{}", "{a=1;}", "if(a)if(a){}", "while(a)while(a){}", "if(a)return a;else{}"};
+        for (String one : goes) {
+            Due.sound("int m[2];int f(int a){" + one + "}");
+            Due.sound("int m[2];int f(int a){if(a)" + one + "}");
+            Due.sound("int m[2];int f(int a){while(a)" + one + "}");
+            Due.sound("int m[2];int f(int a){if(a){}else " + one + "}");
+            Due.sound("int m[2];int f(int a){{" + one + "}{" + one + "}}");
+        }
         Due.fault("int f(int a){int b;}", 1, 18);
         Due.fault("int f(int a){int b=;}", 1, 19);
         Due.fault("int f(int a){int b[1]=1;}", 1, 18);
@@ -320,7 +355,8 @@ public final class TextEdgeTest {
 
     /** Each two neighbours among the levels, either way round, where the other order would answer another thing. */
     private static void levels() {
-        Due.sentence("LEVELS of signs of two, each worked from the left: .. (the later ones bind more)");
+        Due.sentence("LEVELS of signs of two, each worked from the left: || , && , | , ^ , & , == !=, < <= > >=, << >>, + -, * / % "
+            + "(the later ones bind more)");
         is("1||1&&0", 1);
         is("0&&1||1", 1);
         is("2&&1|2", 1);
@@ -397,6 +433,29 @@ public final class TextEdgeTest {
         inE("a[1][1]", 1, 4);
         inE("a=1", 1, 1);
         inE("1,1", 1, 1);
+    }
+
+    /** A STATEMENT that is cut behind each of its tokens, and another that would go by itself. */
+    private static void leftUnfinished() {
+        Due.sentence("1: a token with which no PROGRAM goes on");
+        String[] statements = {"int b = a ;", "int b = - ( a + 1 ) ;", "a = a ;", "a [ a ] = a ;", "a [ ( a ) ] = ! a ;", "if ( a )", "while ( a )",
+            "if ( a ) a = 1 ; else", "while ( ( a ) )", "break ;", "continue ;", "return a ;", "return ( a [ 1 ] ) ;", "return a [ a [ a ] ] ;"};
+        for (String statement : statements) {
+            for (int i = 0; i < statement.length(); i++) {
+                String ahead = "int f(int a){while(a){" + statement.substring(0, i);
+                // Behind a ; the first part of an if with else is whole.
+                if (statement.charAt(i) != ' ' || statement.charAt(i - 1) == ';') {
+                    continue;
+                }
+                boolean takesMore = ahead.endsWith("if ( a )");
+                for (String other : new String[] {"return 1;", "break;", "if(a){}", "while(a){}", "{}", "int c=1;"}) {
+                    if (!takesMore) {
+                        Due.fault(ahead + " " + other + "}}", 1, ahead.length() + 1);
+                    }
+                }
+                Due.fault(ahead + " }}", 1, ahead.length() + 1);
+            }
+        }
     }
 
     /** The same text, cut behind each of its bytes: a token that is cut still goes on, or is another one. */
